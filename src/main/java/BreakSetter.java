@@ -756,7 +756,10 @@ public final class BreakSetter {
                     break;
                 case AT_TO:
                     to = number;
-                    keepSpan();
+                    state = inShift ? AT_PAUSES : AT_MANY;
+                    if (inShift) {
+                        draft.addShift(post, from, to);
+                    }
                     break;
                 case AT_MANY:
                     draft.addNeed(post, from, to, number);
@@ -774,15 +777,6 @@ public final class BreakSetter {
                     draft.addPause(length, early, number);
                     state = AT_PAUSES;
                     break;
-            }
-        }
-
-        private void keepSpan() {
-            if (inShift) {
-                draft.addShift(post, from, to);
-                state = AT_PAUSES;
-            } else {
-                state = AT_MANY;
             }
         }
     }

@@ -10,6 +10,7 @@ public final class ActsTest {
         fillByNumbers();
         fillLeavesWhatFitsNowhere();
         settleAgainAndAgain();
+        settleFortyTimes();
         settleRefused();
         undoEachAct();
         undoKeepsTen();
@@ -88,6 +89,32 @@ public final class ActsTest {
         CHECKS.same("undo()", x.undo(), 3);
         CHECKS.same("first is back", x.pause(0, 4), 3);
         CHECKS.same("shortfall is back", x.now(4), 2);
+    }
+
+    /** A long run of moves, found by search: 47 of them help one behind the other. */
+    private static void settleFortyTimes() {
+        BreakSetter x = Checks.told("posts 2 1;need 1 4 40 2;need 1 39 43 5;need 1 5 10 3;need 0 19 24 5;"
+                + "need 0 29 36 5;need 1 19 34 5;need 0 8 12 4;need 0 36 42 5;need 1 0 15 2;"
+                + "shift 1 0 47 pause 4 18 40 pause 3 3 12 pause 3 6 44;"
+                + "shift 0 0 47 pause 3 22 42 pause 2 2 45 pause 3 15 27;"
+                + "shift 1 0 47 pause 4 6 10 pause 2 15 44 pause 2 6 21;"
+                + "shift 1 0 47 pause 4 26 42 pause 4 4 44 pause 4 8 30;"
+                + "shift 1 0 47 pause 4 5 36 pause 4 17 40 pause 4 26 44;"
+                + "shift 1 0 47 pause 3 4 28 pause 3 31 41 pause 4 36 43;"
+                + "shift 1 0 47 pause 4 14 31 pause 4 12 39 pause 4 13 44;"
+                + "shift 1 0 47 pause 4 5 11 pause 3 6 44 pause 3 2 33;");
+        int[] places = {24, 9, 34, 22, 42, 27, 7, 29, 21, 26, 39, 9, 9, 27, 39, 7, 31, 37, 31, 18, 23, 5, 24, 30};
+        for (int pause = 0; pause < places.length; pause++) {
+            x.place(pause, places[pause]);
+        }
+        int shortfall = x.now(4);
+        CHECKS.same("settle() is cut", x.settle(), 40);
+        CHECKS.isTrue("there is a better one still", x.better() != -2);
+        CHECKS.same("settle() goes on", x.settle(), 7);
+        CHECKS.same("none is left", x.better(), -2);
+        x.undo();
+        x.undo();
+        CHECKS.same("both undone", x.now(4), shortfall);
     }
 
     private static void settleRefused() {

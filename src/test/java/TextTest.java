@@ -52,6 +52,7 @@ public final class TextTest {
         bad("posts 1 1;need 0 0 100 1;", 19, 1);
         bad("posts 001 1;", 6, 1);
         bad("posts 1a 1;", 6, 1);
+        bad("posts 1z 1;", 6, 1);
         bad("posts1 1;", 0, 1);
         bad("posts 11;", 6, 2);
         bad("posts 1 1;need0 0 0 1;", 10, 1);
