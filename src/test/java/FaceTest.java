@@ -36,6 +36,12 @@ public final class FaceTest {
                 there.add(method.getReturnType() + " " + method.getName() + " " + method.getParameterCount());
                 CHECKS.isTrue(method + " is public and no static one",
                         Modifier.isPublic(method.getModifiers()) && !Modifier.isStatic(method.getModifiers()));
+                for (Class<?> parameter : method.getParameterTypes()) {
+                    CHECKS.isTrue(method + " takes ints alone", parameter == int.class);
+                }
+                boolean mayThrow = method.getName().equals("shift") || method.getName().equals("pause");
+                CHECKS.isTrue(method + " declares what it throws", Arrays.equals(method.getExceptionTypes(),
+                        mayThrow ? new Class<?>[] {NoSuchElementException.class} : new Class<?>[0]));
             }
         }
         CHECKS.isTrue("the methods of the face: " + there, there.equals(due));
